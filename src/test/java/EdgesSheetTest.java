@@ -516,6 +516,14 @@ public final class EdgesSheetTest {
         Edges.due(60, x.check(30));
         for (int i = 0; i < 30; i++) Edges.tell(x, 24, i == 0 ? 0 : 1);
         Edges.due(59, x.check(29));
+        // what waited before is gone: it is missing then
+        for (int many = 0; many < 6; many++) {
+            x = kept();
+            Edges.tell(x, right);
+            Edges.due(0, x.check(3));
+            for (int i = 0; i < many; i++) x.tell(right[i]);
+            Edges.due(1 + many, x.check(3));
+        }
         Edges.tell(x, 24);
         Edges.due(2, x.check(1));
         Edges.tell(x, 24, 0, 24);

@@ -80,6 +80,12 @@ public final class EdgesTextTest {
         faultAt(0, "", "s", "se", "sett 1", "fe 1", "feee 1", "fin 1", "fines 1", "Set 1", "SET 1", "1", "12 1", "( set 1)", "!set 1", "l", "t",
             "+ 1", "1a 1", "tes 1", "setfee 1", "eef 1");
 
+        for (String key : new String[] {"set", "fee", "fine"}) {
+            for (int i = 0; i < key.length(); i++) {
+                faultAt(0, key.substring(0, i) + "x" + key.substring(i + 1) + " 1", key.substring(0, i) + key.substring(i + 1) + " 1");
+            }
+        }
+
         Edges.sentence("OR: AND { | AND }; AND: TEST { & TEST }; TEST: SUM [ (< | = | >) SUM ]; SUM: TERM { (+ | -) TERM };"
             + " TERM: PIECE { (* | /) PIECE }");
         for (char sign : "|&+-*/".toCharArray()) {
@@ -110,6 +116,8 @@ public final class EdgesTextTest {
         Edges.due(9, Edges.gives("9"), Edges.gives("09"), Edges.gives("009"), Edges.gives("0009"), Edges.gives("((9))"));
         Edges.due(9999, Edges.gives("9999"));
         Edges.due(1000, Edges.gives("1000"));
+        for (String sign : "| & < = > + - * /".split(" ")) good("fee (1" + sign + "2)", "fee !(1" + sign + "2)", "fee ((1" + sign + "2))*3");
+        Edges.due(3, Edges.gives("(0|7)*3"), Edges.gives("(4&7)*3"), Edges.gives("(4<7)*3"), Edges.gives("6/(1+1)"));
         faultAt(4, "fee 10000", "fee 00001", "fee 12345", "fee 99999", "fee 1234567890");
         faultAt(5, "fee ()", "fee (", "fee !", "fee !)", "fee t!", "fee t(", "fee t)", "fee 1()", "fee !)1");
         faultAt(6, "fee (t", "fee (t(", "fee (1", "fee (1!", "fee !!");

@@ -148,6 +148,11 @@ public final class EdgesThoughtTest {
         Edges.law(x, "set d+1");
         Edges.due(12, x.worst(0), x.needs(11));
         Edges.due(13, x.worst(1));
+        // 33, 55, 70, 80, 87, 91, 94, 96, 97, 98, 99: the last NUMBER is the worst
+        x = Edges.one(HALF, 33, 0);
+        Edges.law(x, "set l+(h-l)/3");
+        Edges.due(99, x.worst(0));
+        Edges.due(11, x.worst(1));
 
         Edges.sentence("what 0 the NUMBER, 1 NEEDS (13: never). BAD.");
         Edges.range(0, 1, (o, v) -> o.worst(v));
@@ -468,9 +473,12 @@ public final class EdgesThoughtTest {
         Edges.law(x, "fine d*1000-w");
         Edges.due(-1, x.fine(0));
         Edges.due(98991, x.fine(1));
+        x = Edges.people(HALF, 50);
+        Edges.law(x, "fine d");
+        Edges.due(50, x.fine(0));
 
         Edges.sentence("What fine gives for one. BAD.");
         Edges.range(0, 6, (o, v) -> o.fine(v));
-        Edges.due(BAD, x.fine(2), x.fine(-1), new MeanSafe().fine(0));
+        Edges.due(BAD, x.fine(1), x.fine(-1), new MeanSafe().fine(0));
     }
 }
