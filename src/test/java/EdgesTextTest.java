@@ -57,6 +57,18 @@ public final class EdgesTextTest {
             Edges.due(1, x.fee());
         }
 
+        // and nothing of a text that was taken away is left in the one that takes its number
+        x = new MeanSafe();
+        x.keep();
+        for (String longer : new String[] {"fee !1", "fee !!(1+2)", "fee 1-2-3-4", "fee t|b&!7"}) {
+            Edges.due(0, Edges.law(x, longer));
+            x.back();
+            Edges.due(0, Edges.law(x, "fee 5"));
+            Edges.due(5, x.fee());
+            Edges.due(1, x.textTold(0, 1));
+            x.back();
+        }
+
         Edges.sentence("(96 bytes at most; an act that reads it uses it up, whatever it answers)");
         x = new MeanSafe();
         for (String s : new String[] {"", "fee t", "fee", "fee 1?", "fee ((((((((((1"}) {
